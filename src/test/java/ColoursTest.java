@@ -136,6 +136,10 @@ public final class ColoursTest {
         // R and G alike: by R, of equal R by all: 0A0064, 0A6400, 6E0000
         dueFew("of equal sides R", 2, 2, new int[] {0xFF0A6400, 0xFF6E0000, 0xFF0A0064}, 0xFF0A3232, 0xFF6E0000, 0xFF0A3232);
         dueFew("G ahead of B", 2, 2, new int[] {0xFF006400, 0xFF000064}, 0xFF006400, 0xFF000064);
+        // R 200 205 210 is shorter than G 0 50 0
+        dueFew("the longest side, not the greatest value", 2, 2, new int[] {0xFFC80000, 0xFFCD3200, 0xFFD20000},
+            0xFFCD0000, 0xFFCD3200, 0xFFCD0000);
+        dueFew("B alone", 2, 2, new int[] {0xFF000001, 0xFF000009, 0xFF000003}, 0xFF000001, 0xFF000006, 0xFF000001);
         // the second BOX is the longest then, and a new one stands behind all
         dueFew("a new BOX stands behind", 3, 3, greys(0, 1, 100, 200), greys(1, 1, 100, 200));
         // of equal distances the first: 10 lies between 0 and 20
@@ -165,6 +169,12 @@ public final class ColoursTest {
         PictureStudio q = Check.canvas(3, 3);
         Check.paint(q, 0, greys(0, 64, 255, 128, 120, 130, 70, 60, 50));
         q.few(0, 2, true);
+        PictureStudio c = Check.canvas(4, 3);
+        Check.paint(c, 0, 0xFF10C020, 0xFF2080F0, 0x80D04060, 0xFF707070, 0x40F0E010, 0xFF30A0C0, 0xFF908010, 0x00FFFFFF,
+            0xFFC0C0F0, 0xFF501030, 0xFF60F090, 0xFFE02080);
+        Check.due("three colours", c.few(0, 3, true), 3);
+        Check.duePixels("each channel for itself, none to pixels with A 0", c, 0, 0xFF35C57B, 0xFF384890, 0x80BB7D65,
+            0xFF384890, 0x40BB7D65, 0xFF35C57B, 0xFFBB7D65, 0x00FFFFFF, 0xFFBB7D65, 0xFF384890, 0xFF35C57B, 0xFFBB7D65);
         Check.duePixels("row by row", q, 0, greys(44, 44, 141, 141, 141, 141, 44, 44, 44));
     }
 
@@ -219,6 +229,10 @@ public final class ColoursTest {
         frame(q, 15, 4095);
         q.raw();
         Check.duePixels("what has none around is 0", q, 0, 0xFF00FF00, 0xFF00FF00);
+        PictureStudio g = Check.studio(2, 2);
+        frame(g, 4000, 3000, 3000, 2000);
+        g.raw();
+        Check.duePixels("gains are 64 at first", g, 0, 0xFFFABB7D, 0xFFFABB7D, 0xFFFABB7D, 0xFFFABB7D);
         PictureStudio r = Check.studio(2, 2);
         frame(r, 0, 16, 31, 48);
         r.raw();

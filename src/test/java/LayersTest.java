@@ -32,6 +32,10 @@ public final class LayersTest {
         s.point(16, 18, 255);
         Check.due("the BRUSH at first: a radius of two pixels, hard", s.stroke(0, 0), 16);
         Check.dueColour("FRONT at first", s.pixel(0, 4, 4), 0xFF000000);
+        s.undo();
+        s.point(-10, 2, 255);
+        s.point(14, 2, 255);
+        Check.due("spacing at first: the last DAB is at the end of 24 quarters", s.stroke(0, 0), 15);
     }
 
     private static void open() {
@@ -220,6 +224,14 @@ public final class LayersTest {
         Check.due("redo", s.redo(), 4);
         Check.due("opacity as behind it", s.about(0, 3), 100);
         Check.refused("none undone", () -> s.redo());
+        s.undo();
+        s.undo();
+        s.redo();
+        s.undo();
+        Check.due("undone behind being done again", s.masked(0, 0, 0), -1);
+        Check.dueColour("and no more than that", s.pixel(0, 0, 0), 0xFF112233);
+        s.redo();
+        s.redo();
         s.undo();
         s.set(0, 1, 1);
         Check.refused("a new EDIT drops those undone", () -> s.redo());

@@ -144,6 +144,12 @@ public final class PixelsTest {
         Check.due("all IN it go", s.count(2), 2);
         Check.missing("such as this", () -> s.about(4, 0));
         Check.due("what is seen stays", s.hash(), before);
+        PictureStudio q = Check.studio(1, 1);
+        q.layer(2, -1, 0);
+        q.layer(1, -1, 1);
+        q.move(0, 1, 0);
+        q.flat(1);
+        Check.due("LAYER 0 goes as others do", q.count(2), 1);
     }
 
     private static void fill() {
@@ -190,6 +196,10 @@ public final class PixelsTest {
         s.select(0, 0, 0, 0, 0, 0);
         Check.due("beyond the DOCUMENT it is 0", s.fill(0, 2), 1);
         Check.duePixels("so only these", s, 0, 0, 0, 0, 0xFF000000, 0xFF000000, 0);
+        PictureStudio q = Check.canvas(2, 2);
+        q.set(0, 5, 1);
+        Check.due("below the DOCUMENT it is 0, too", q.fill(0, 2), 2);
+        Check.duePixels("so only these", q, 0, 0xFF000000, 0xFF000000, 0, 0);
     }
 
     private static void merge() {
@@ -298,6 +308,8 @@ public final class PixelsTest {
         dueAlone(12, 213, 0xFFFF0000, 0xFFFD00FF);
         dueAlone(12, 255, 0xFFFF0000, 0xFFFF0006);
         dueAlone(12, 20, 0xFF0000FF, 0xFF7700FF);
+        dueAlone(12, 1, 0xFF00FFFF, 0xFF00FAFF);
+        dueAlone(12, 0, 0xFFFE00FF, 0xFFFD00FF);
         dueAlone(13, 64, 0x80C86432, 0x80C86432);
         dueAlone(13, 0, 0x80C86432, 0x807C7C7C);
         dueAlone(13, 255, 0x80C86432, 0x80FF1C00);
@@ -355,6 +367,11 @@ public final class PixelsTest {
         s.filter(0, 3, 0);
         Check.dueColour("edges", s.pixel(0, 1, 1), Check.grey(255));
         Check.dueColour("edges of a corner: 40 + 120", s.pixel(0, 0, 0), Check.grey(160));
+        Check.dueColour("edges on the left: 40 + 240", s.pixel(0, 0, 1), Check.grey(255));
+        dueEdges(0, 200, 200, 200, 200, 200, 200, 200, 200, 200);
+        // 20 - 9 and 26 - 13; 37 - 18 and 24 - 9
+        dueEdges(24, 0, 2, 9, 2, 0, 1, 5, 6, 9);
+        dueEdges(34, 1, 2, 4, 7, 0, 12, 3, 6, 9);
         s.undo();
         s.filter(0, 4, 0);
         dueGreys("raised", s, 168, 178, 168, 198, 255, 255, 168, 255, 255);
@@ -375,6 +392,16 @@ public final class PixelsTest {
         Check.dueColour("own: (-50 + 765) / 7 - 1, A as it is", s.pixel(0, 2, 2), 0x00656565);
     }
 
+    /** The middle of nine grey pixels, each Y told row by row. */
+    private static void dueEdges(int due, int... told) {
+        PictureStudio s = Check.canvas(3, 3);
+        for (int i = 0; i < 9; i++) {
+            Check.dot(s, 0, i % 3, i / 3, Check.grey(told[i]));
+        }
+        s.filter(0, 3, 0);
+        Check.dueColour("edges of nine", s.pixel(0, 1, 1), Check.grey(due));
+    }
+
     private static void filterWithinSelection() {
         PictureStudio s = Check.canvas(3, 1);
         Check.paint(s, 0, 0xFF000000, 0x80FFFFFF, 0xFF102030);
@@ -389,5 +416,10 @@ public final class PixelsTest {
         s.select(1, 0, 0, 0, 1, 1);
         s.filter(0, 0, 1);
         Check.duePixels("A is mixed, too", s, 0, 0xD51A1A1A, 0x80000000, 0xFF102030);
+        PictureStudio q = Check.canvas(1, 3);
+        q.set(0, 5, 1);
+        q.select(1, 0, 0, 1, 1, 1);
+        Check.due("shifted down", q.filter(0, 8, 0), 1);
+        Check.duePixels("shifted down", q, 0, 0x00FFFFFF, 0, 0);
     }
 }

@@ -1,5 +1,6 @@
 import java.io.ByteArrayOutputStream;
 import java.util.Arrays;
+import java.util.Random;
 import java.util.zip.Adler32;
 import java.util.zip.CRC32;
 import java.util.zip.DataFormatException;
@@ -177,6 +178,14 @@ public final class PngTest {
             s.made(0);
             takeApart(s, 0, w);
         }
+        PictureStudio flat = Check.canvas(24, 24);
+        flat.made(0);
+        takeApart(flat, 0, 24);
+        Check.dot(flat, 0, 20, 1, 0x01020304);
+        Check.dot(flat, 0, 5, 4, 0x05060708);
+        Check.dot(flat, 0, 20, 5, 0x7F800102);
+        flat.made(0);
+        takeApart(flat, 0, 24);
         Check.due("no TILES are asked", colourful(3, 3).count(5), 0);
     }
 
@@ -369,6 +378,17 @@ public final class PngTest {
         for (int[] way : ways) {
             dueGreys("one block by the library", rows, zipped(rows, way[0], way[1], rows.length));
             dueGreys("two blocks by the library", rows, zipped(rows, way[0], way[1], 7));
+        }
+        Random r = new Random(7);
+        for (int kinds = 2; kinds < 60; kinds += 7) {
+            byte[] skewed = new byte[24 * 25];
+            for (int i = 0; i < skewed.length; i++) {
+                skewed[i] = (byte) (i % 25 == 0 ? 0 : r.nextInt(1 + r.nextInt(kinds)) * 5);
+            }
+            PictureStudio t = read(24, 24, grey(24, 24, packed(skewed)));
+            for (int i = 0; i < 576; i++) {
+                Check.dueColour("told codes", t.pixel(0, i % 24, i / 24), Check.grey(skewed[i / 24 * 25 + 1 + i % 24] & 255));
+            }
         }
         byte[] flat = new byte[24 * 25];
         PictureStudio s = read(24, 24, grey(24, 24, packed(flat)));
@@ -563,6 +583,10 @@ public final class PngTest {
         byte[] five = bytes(0, 5, 5, 5, 5);
         read(4, 1, grey(4, 1, zlib(bits(1, 1, 1, 2, 0x30, -8, 0x35, -8, 1, -7, 0, -5, 0, -7), five)));
         dueFive("a distance too far", 4, 1, zlib(bits(1, 1, 1, 2, 0x30, -8, 0x35, -8, 1, -7, 2, -5, 0, -7), five));
+        dueFive("a distance too far, to where 0 could stand", 3, 1,
+            zlib(bits(1, 1, 1, 2, 0x30, -8, 1, -7, 1, -5, 0, -7), new byte[4]));
+        dueFive("a byte more, though ADLER-32 leaves it out", 1, 1,
+            zlib(bits(1, 1, 1, 2, 0x30, -8, 0x35, -8, 0x35, -8, 0, -7), bytes(0, 5)));
         dueFive("a distance's code that is none", 4, 1, zlib(bits(1, 1, 1, 2, 0x30, -8, 0x35, -8, 1, -7, 30, -5, 0, -7), five));
         dueFive("a match beyond the rows", 3, 1, zlib(bits(1, 1, 1, 2, 0x30, -8, 0x35, -8, 1, -7, 0, -5, 0, -7), five));
     }
@@ -600,8 +624,17 @@ public final class PngTest {
         int[] right = {2, -2, 0, -2, 0, -2, 0, -2, 0, -2, 2, -2, 3, -2, 127, 7, 3, -2, 101, 7, 1, -2, 0, -2,
             2, -2, 3, -2, 0, -1};
         read(1, 1, grey(1, 1, zlib(bits(told(257, 1, four(), right)), bytes(0, 5))));
-        dueTold("287 codes", 287, 1, four(), right);
-        dueTold("31 distances", 257, 31, four(), right);
+        int[] longer = right.clone();
+        longer[22] = 3;
+        int[] thirty = Arrays.copyOf(longer, longer.length + 4);
+        System.arraycopy(longer, 24, thirty, 28, longer.length - 24);
+        int[] zeros = {18, 7, 0, -2};
+        System.arraycopy(zeros, 0, thirty, 24, 4);
+        read(1, 1, grey(1, 1, zlib(bits(told(286, 1, four(), thirty)), bytes(0, 5))));
+        read(1, 1, grey(1, 1, zlib(bits(told(258, 29, four(), thirty)), bytes(0, 5))));
+        thirty[24] = 19;
+        dueTold("287 codes", 287, 1, four(), thirty);
+        dueTold("31 distances", 257, 31, four(), thirty);
         dueTold("no code for 256", 257, 1, four(), 1, -2, 0, -2, 0, -2, 0, -2, 0, -2, 1, -2, 3, -2, 127, 7, 3, -2, 101, 7,
             0, -2, 0, -2, 0, -1, 1, -1, 0, -1);
         dueTold("too many codes", 257, 1, four(), 1, -2, 0, -2, 0, -2, 0, -2, 0, -2, 1, -2, 3, -2, 127, 7, 3, -2, 101, 7,
@@ -632,6 +665,7 @@ public final class PngTest {
     private static void indexFault() {
         byte[] two = chunk("PLTE", bytes(1, 2, 3, 4, 5, 6));
         dueFault("an index beyond PLTE", png(header(2, 1, 3), two, chunk("IDAT", packed(bytes(0, 1, 2)))), 6, 51);
+        dueFault("in another row", png(header(1, 2, 3), two, chunk("IDAT", packed(bytes(0, 1, 0, 2)))), 6, 51);
         dueFault("also beyond the DOCUMENT", png(header(5, 1, 3), two, chunk("IDAT", packed(bytes(0, 0, 0, 0, 0, 2)))), 6, 51);
         dueFault("by the latest PLTE", png(header(2, 1, 3), two, chunk("IDAT", packed(bytes(0, 0, 1))),
             chunk("PLTE", bytes(1, 2, 3))), 6, 51);
@@ -646,6 +680,19 @@ public final class PngTest {
         dueFault("bytes behind ahead of 5", join(five, bad), 1, five.length);
         byte[] six = png(header(1, 2, 3), chunk("PLTE", bytes(1, 2, 3)), chunk("IDAT", packed(bytes(0, 1, 5, 0))));
         dueFault("5 ahead of 6", six, 5, 48);
+        PictureStudio s = Check.studio(1, 1);
+        byte[] plte = chunk("PLTE", bytes(1, 2, 3));
+        byte[] zero = chunk("IDAT", packed(bytes(0, 0)));
+        Check.feedBytes(s, six);
+        Check.faulty("first a wrong file", s, () -> s.png(), 5, 48);
+        Check.feedBytes(s, png(header(1, 1, 3), plte, chunk("tRNS", bytes(9)), zero));
+        s.png();
+        Check.feedBytes(s, png(header(1, 1, 3), plte, zero));
+        s.png();
+        Check.duePixels("then a right one", s, 0, 0x09010203);
+        Check.duePixels("without the tRNS of that before", s, 1, 0xFF010203);
+        Check.feedBytes(s, png(header(1, 1, 3), zero));
+        Check.faulty("nor its PLTE", s, () -> s.png(), 4, 33 + zero.length);
         byte[] crc = png(chunk("abcd", bad));
         crc[20] ^= 1;
         dueFault("2 ahead of 3", crc, 2, 8);

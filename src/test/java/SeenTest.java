@@ -44,6 +44,11 @@ public final class SeenTest {
         Check.dueColour("opacity: MUL(128, 128)", s.see(0, 0), 0x40102030);
         s.set(0, 0, 0);
         Check.dueColour("what isn't there is 0", s.see(0, 0), 0);
+        s.set(0, 0, 1);
+        s.colours(0, 0x7F102030, 0);
+        Check.dueColour("MUL(127, 1) is 0", s.see(0, 0), 0);
+        s.colours(0, 0x80102030, 0);
+        Check.dueColour("MUL(128, 1) is 1", s.see(0, 0), 0x01102030);
         s.set(0, 0, 255);
         s.set(0, 2, 0);
         Check.dueColour("not shown", s.see(0, 0), 0);
@@ -59,6 +64,7 @@ public final class SeenTest {
 
     private static void modesAtTheirEnds() {
         Check.dueColour("6: b 0, s 0, s 255", pair(0xFF00FF0A, 0xFFFF00FF, 6).see(0, 0), 0xFF00FFFF);
+        Check.dueColour("6: 255 100 / 155", pair(0xFF646464, 0xFF646464, 6).see(0, 0), 0xFFA4A4A4);
         Check.dueColour("7: s 255, b 255, s 255", pair(0xFF00FF0A, 0xFFFF00FF, 7).see(0, 0), 0xFF00FF0A);
         Check.dueColour("7: s 0", pair(0xFF0AFF00, 0xFF000000, 7).see(0, 0), 0xFF00FF00);
         Check.dueColour("3: b 127, 128", pair(0xFF7F8000, 0xFFC8C8C8, 3).see(0, 0), 0xFFC7C800);
@@ -210,6 +216,17 @@ public final class SeenTest {
         }
         s.ramp(0, 4, 0, 1, 3);
         Check.dueColour("across: v 3, n 18, u 42", s.see(3, 0), 0xEA2A00D5);
+        s.set(0, 0, 255);
+        int[] points = {4, 0, 1, 3};
+        for (int i = 0; i < 4; i++) {
+            Check.due("other EDITS leave its points", s.about(0, 12 + i), points[i]);
+        }
+        PictureStudio t = Check.studio(1, 4);
+        t.layer(3, -1, 0);
+        t.colours(0, 0xFF000000, 0xFFFFFFFF);
+        t.ramp(0, 0, 3, 0, 0);
+        Check.dueColour("upwards: v 3, n 9", t.see(0, 2), 0xFF555555);
+        Check.dueColour("upwards: at its end", t.see(0, 0), 0xFFFFFFFF);
         Check.bad("a FILL has no points", () -> s.ramp(1, 0, 0, 0, 0));
         Check.missing("a LAYER that isn't there", () -> s.ramp(2, 0, 0, 0, 0));
         for (int i = 0; i < 4; i++) {
@@ -236,6 +253,9 @@ public final class SeenTest {
         Check.dueColour("G: between others: 7 + 93 / 21", s.see(0, 0), 0xFF280BC8);
         s.curve(0, 1, 100, 8);
         Check.dueColour("G: at a point", s.see(0, 0), 0xFF2808C8);
+        s.curve(0, 1, 100, 9);
+        Check.dueColour("G: in place of that point", s.see(0, 0), 0xFF2809C8);
+        s.curve(0, 1, 100, 8);
         s.curve(0, 3, 8, 0);
         s.curve(0, 3, 200, 192);
         Check.dueColour("all three, behind the channels", s.see(0, 0), 0xFF2000C0);
@@ -381,6 +401,17 @@ public final class SeenTest {
         Check.feedBytes(s, (byte) 65);
         s.text(0, 0, 160);
         Check.due("a text over three TILES", s.count(6), 6);
+        seeAll(s);
+        s.set(0, 5, 9);
+        seeAll(s);
+        s.select(1, 0, 0, 16, 1, 1);
+        s.fill(0, 2);
+        Check.due("shifted down by 9 into the lowest row", s.count(6), 8);
+        s.see(0, 23);
+        Check.due("it was the TILE there", s.count(6), 9);
+        s.set(0, 5, 0);
+        Check.dot(s, 0, 23, 23, 0xFF00FF00);
+        Check.dueColour("the last pixel", s.see(23, 23), 0xFF00FF00);
         seeAll(s);
         s.turn(0, 0);
         Check.due("turn keeps none", s.count(6), 0);

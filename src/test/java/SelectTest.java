@@ -115,6 +115,9 @@ public final class SelectTest {
         Check.dot(s, 0, 1, 2, 0x63646464);
         Check.due("A counts, too", s.select(4, 0, 0, 0, 155, 0), 11);
         Check.due("A counts, too", s.select(4, 0, 0, 0, 156, 0), 12);
+        Check.dot(s, 0, 1, 2, 0xFF6464FF);
+        Check.due("B counts, too", s.select(4, 0, 0, 0, 154, 0), 11);
+        Check.due("B counts, too", s.select(4, 0, 0, 0, 155, 0), 12);
         s.layer(5, -1, 1);
         s.colours(1, 6, 50);
         Check.due("what is seen", s.select(4, 0, 2, 0, 0, 0), 4);

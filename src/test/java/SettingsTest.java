@@ -109,6 +109,13 @@ public final class SettingsTest {
         s.brush(2, 255, 2, 255, 255);
         Check.due("what is right of it is cloned", s.stroke(0, 2), 1);
         Check.duePixels("clone", s, 0, 0xFF102030, 0xFF102030);
+        PictureStudio q = Check.canvas(1, 3);
+        Check.paint(q, 0, 0xFF000001, 0xFF000002, 0xFF000003);
+        q.source(0, -1);
+        q.point(2, 6, 255);
+        q.brush(64, 255, 2, 255, 255);
+        q.stroke(0, 2);
+        Check.duePixels("what is above is cloned", q, 0, 0xFF000001, 0xFF000001, 0xFF000002);
     }
 
     private static void point() {
@@ -163,6 +170,16 @@ public final class SettingsTest {
         Check.bad("DIVISOR 1001", () -> s.kernel(9, 1001));
         Check.bad("OFFSET -256", () -> s.kernel(10, -256));
         Check.bad("OFFSET 256", () -> s.kernel(10, 256));
+        for (int i = 0; i < 9; i++) {
+            s.kernel(i, 100);
+            s.kernel(i, -100);
+            s.kernel(i, i == 4 ? 1 : 0);
+        }
+        s.kernel(9, 1000);
+        s.kernel(9, 1);
+        s.kernel(10, 255);
+        s.kernel(10, -255);
+        s.kernel(10, 0);
         Check.paint(s, 0, 0xFF0A141E, 0x80646464);
         Check.due("the KERNEL at first leaves all", s.filter(0, 10, 0), 0);
         s.kernel(4, 0);
@@ -186,6 +203,7 @@ public final class SettingsTest {
         s.profile(3, 8, -4096);
         s.profile(3, 8, 4096);
         s.profile(3, 9, 2);
+        s.profile(3, 9, 0);
         Check.paint(s, 0, 0xFF804020);
         s.convert(0, 2, 2);
         Check.duePixels("PROFILES are 1 at first", s, 0, 0xFF804020);

@@ -272,6 +272,10 @@ public final class StrokesTest {
         s.select(1, 0, 1, 1, 1, 1);
         s.path(0, 3, 0);
         Check.duePixels("at the shifted place", s, 0, 0x70FF0000, 0, 0x80FF0000, 0);
+        s.set(0, 5, -1);
+        s.select(1, 0, 1, 0, 1, 1);
+        s.path(0, 3, 0);
+        Check.duePixels("at the shifted place, up", s, 0, 0x70FF0000, 0, 0xC0FF0000, 0);
     }
 
     private static void pathRules() {
