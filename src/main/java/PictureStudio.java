@@ -224,21 +224,27 @@ public final class PictureStudio {
     }
 
     public int undo() throws IllegalStateException {
-        refuse(pastCount <= 0 || undoneCount >= UNDOS);
+        Stand before = pastCount > 0 ? past[pastCount - 1] : null;
+        if (before == null || undoneCount >= UNDOS) {
+            throw new IllegalStateException("no EDIT can be undone");
+        }
         undone[undoneCount] = now;
         undoneCount++;
         pastCount--;
-        now = past[pastCount];
+        now = before;
         viewer.forgetAll();
         return pastCount;
     }
 
     public int redo() throws IllegalStateException {
-        refuse(undoneCount <= 0 || pastCount >= UNDOS);
+        Stand behind = undoneCount > 0 ? undone[undoneCount - 1] : null;
+        if (behind == null || pastCount >= UNDOS) {
+            throw new IllegalStateException("no EDIT can be done again");
+        }
         past[pastCount] = now;
         pastCount++;
         undoneCount--;
-        now = undone[undoneCount];
+        now = behind;
         viewer.forgetAll();
         return pastCount;
     }
@@ -416,11 +422,10 @@ public final class PictureStudio {
     public void merge(int l) throws NoSuchElementException, IllegalStateException {
         Layer old = known(l);
         Layer below = now.below(old);
-        refuse(below == null || old.kind == CURVED || old.kind == LIVE);
-        if (below != null) {
-            refuse(below.kind == CURVED || below.kind == LIVE);
-            mergeInto(below, old);
+        if (below == null || old.kind >= CURVED || below.kind >= CURVED) {
+            throw new IllegalStateException("it can't be merged with the one below");
         }
+        mergeInto(below, old);
     }
 
     private void mergeInto(Layer below, Layer above) {
