@@ -169,6 +169,11 @@ public final class ColoursTest {
         PictureStudio q = Check.canvas(3, 3);
         Check.paint(q, 0, greys(0, 64, 255, 128, 120, 130, 70, 60, 50));
         q.few(0, 2, true);
+        PictureStudio d = Check.canvas(1, 4);
+        Check.paint(d, 0, greys(0, 72, 72, 100));
+        // 48 and 100: e -48 gives 72 - 15, that 9 gives 72 + 2, as near to 100: the first
+        d.few(0, 2, true);
+        Check.duePixels("down a column", d, 0, greys(48, 48, 48, 100));
         PictureStudio c = Check.canvas(4, 3);
         Check.paint(c, 0, 0xFF10C020, 0xFF2080F0, 0x80D04060, 0xFF707070, 0x40F0E010, 0xFF30A0C0, 0xFF908010, 0x00FFFFFF,
             0xFFC0C0F0, 0xFF501030, 0xFF60F090, 0xFFE02080);

@@ -48,6 +48,7 @@ public final class LayersTest {
         Check.bad("height 25", () -> s.open(1, 25));
         Check.due("a bad open leaves the DOCUMENT", s.count(1), 5);
         Check.due("and its TILES", s.count(6), 1);
+        s.set(0, 0, 1);
         s.undo();
         s.open(24, 1);
         Check.due("W", s.count(0), 24);

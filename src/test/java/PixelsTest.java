@@ -89,6 +89,11 @@ public final class PixelsTest {
         // X = (2 x + 1) 16 - 8 = 8 and 40: four halves, then beyond
         q.scale(0, 1, 2, true);
         Check.duePixels("by a half", q, 0, 0xA0663366, 0, 0, 0);
+        PictureStudio t = Check.canvas(1, 3);
+        Check.paint(t, 0, 0xFF000000, 0xFF404040, 0xFF808080);
+        // Y = (2 y + 1) 16 / 3 - 8 = -3, 8, 18; X = -3: 13 / 16 of each row is there
+        t.scale(0, 3, 2, true);
+        Check.duePixels("by 3 / 2", t, 0, 0xA8000000, 0xCF202020, 0xCF484848);
     }
 
     private static void flat() {
@@ -309,6 +314,8 @@ public final class PixelsTest {
         dueAlone(12, 255, 0xFFFF0000, 0xFFFF0006);
         dueAlone(12, 20, 0xFF0000FF, 0xFF7700FF);
         dueAlone(12, 1, 0xFF00FFFF, 0xFF00FAFF);
+        // 1024 + 256 (100 - 50) / 200 = 1088, + 540 - 1536 = 92: up 50 + 200 92 / 256
+        dueAlone(12, 90, 0xFF6432FA, 0xFFFA7932);
         dueAlone(12, 0, 0xFFFE00FF, 0xFFFD00FF);
         dueAlone(13, 64, 0x80C86432, 0x80C86432);
         dueAlone(13, 0, 0x80C86432, 0x807C7C7C);
@@ -390,6 +397,18 @@ public final class PixelsTest {
         s.filter(0, 10, 0);
         Check.dueColour("own: (-10 + 180) / 7 - 1", s.pixel(0, 1, 1), Check.grey(23));
         Check.dueColour("own: (-50 + 765) / 7 - 1, A as it is", s.pixel(0, 2, 2), 0x00656565);
+        s.undo();
+        s.kernel(0, 0);
+        s.kernel(5, 0);
+        s.kernel(9, 1);
+        s.kernel(10, 0);
+        for (int i = 0; i < 9; i++) {
+            s.kernel(i, 1);
+            s.filter(0, 10, 0);
+            Check.dueColour("own: number " + i + " alone", s.pixel(0, 1, 1), Check.grey(i < 8 ? 10 * i + 10 : 255));
+            s.undo();
+            s.kernel(i, 0);
+        }
     }
 
     /** The middle of nine grey pixels, each Y told row by row. */

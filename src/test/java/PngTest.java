@@ -582,6 +582,7 @@ public final class PngTest {
         dueFive("a stored block cut off", 1, 1, zlib(bytes(1, 200, 0, 55, 255, 0, 5), bytes(0, 5)));
         byte[] five = bytes(0, 5, 5, 5, 5);
         read(4, 1, grey(4, 1, zlib(bits(1, 1, 1, 2, 0x30, -8, 0x35, -8, 1, -7, 0, -5, 0, -7), five)));
+        read(4, 1, grey(4, 1, zlib(bits(1, 1, 1, 2, 0x30, -8, 0x35, -8, 1, -7, 1, -5, 0, -7), bytes(0, 5, 0, 5, 0))));
         dueFive("a distance too far", 4, 1, zlib(bits(1, 1, 1, 2, 0x30, -8, 0x35, -8, 1, -7, 2, -5, 0, -7), five));
         dueFive("a distance too far, to where 0 could stand", 3, 1,
             zlib(bits(1, 1, 1, 2, 0x30, -8, 1, -7, 1, -5, 0, -7), new byte[4]));
@@ -631,7 +632,7 @@ public final class PngTest {
         int[] zeros = {18, 7, 0, -2};
         System.arraycopy(zeros, 0, thirty, 24, 4);
         read(1, 1, grey(1, 1, zlib(bits(told(286, 1, four(), thirty)), bytes(0, 5))));
-        read(1, 1, grey(1, 1, zlib(bits(told(258, 29, four(), thirty)), bytes(0, 5))));
+        read(1, 1, grey(1, 1, zlib(bits(told(257, 30, four(), thirty)), bytes(0, 5))));
         thirty[24] = 19;
         dueTold("287 codes", 287, 1, four(), thirty);
         dueTold("31 distances", 257, 31, four(), thirty);
@@ -639,6 +640,9 @@ public final class PngTest {
             0, -2, 0, -2, 0, -1, 1, -1, 0, -1);
         dueTold("too many codes", 257, 1, four(), 1, -2, 0, -2, 0, -2, 0, -2, 0, -2, 1, -2, 3, -2, 127, 7, 3, -2, 101, 7,
             1, -2, 0, -2, 2, -2, 3, -2, 0, -1);
+        // 0 and 5 with 1 bit leave no room for 256 with 2
+        dueTold("too many codes, of another length", 257, 1, four(), 1, -2, 0, -2, 0, -2, 0, -2, 0, -2, 1, -2, 3, -2, 127, 7,
+            3, -2, 101, 7, 2, -2, 0, -2, 0, -1, 1, -1, 0, -2);
         dueTold("too few codes", 257, 1, four(), 2, -2, 0, -2, 0, -2, 0, -2, 0, -2, 2, -2, 3, -2, 127, 7, 3, -2, 101, 7,
             2, -2, 0, -2, 0, -2, 1, -2, 2, -2);
         dueTold("too few distances", 257, 1, four(), 2, -2, 0, -2, 0, -2, 0, -2, 0, -2, 2, -2, 3, -2, 127, 7, 3, -2, 101, 7,

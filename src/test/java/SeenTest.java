@@ -275,6 +275,10 @@ public final class SeenTest {
         Check.dueColour("A as it is", s.see(2, 0), 0x80EFDFCF);
         s.set(1, 0, 51);
         Check.dueColour("by its opacity", s.see(0, 0), 0xFF3333CC);
+        Check.dot(s, 0, 1, 0, 0xFF404040);
+        s.set(1, 0, 1);
+        Check.dueColour("MIX(64, 191, 1) is 64", s.see(1, 0), 0xFF404040);
+        Check.dot(s, 0, 1, 0, 0);
         s.set(1, 0, 255);
         s.select(1, 0, 0, 0, 1, 1);
         s.mask(1, 1);

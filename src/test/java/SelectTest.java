@@ -147,6 +147,12 @@ public final class SelectTest {
         Check.due("rule 0", s.select(6, 0, 7, 0, 0, 0), 2);
         Check.dueSelected("rule 0", s, 255, 128);
         Check.due("rule 1", s.select(6, 0, 7, 1, 0, 0), 0);
+        s.step(6, 0, 0, 2);
+        s.step(6, 1, 16, 2);
+        s.step(6, 1, 16, 14);
+        s.step(6, 1, 0, 14);
+        s.select(6, 0, 6, 0, 0, 0);
+        Check.dueSelected("where it lies", s, 191, 0);
         Check.due("an empty PATH", s.select(6, 0, 0, 0, 0, 0), 0);
     }
 
