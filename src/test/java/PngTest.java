@@ -1,17 +1,11 @@
-import java.io.ByteArrayOutputStream;
 import java.util.Arrays;
 import java.util.Random;
-import java.util.zip.Adler32;
-import java.util.zip.CRC32;
 import java.util.zip.DataFormatException;
 import java.util.zip.Deflater;
 import java.util.zip.Inflater;
 
 /** PNG files: promises 25 (png), 45 (made) and 46 (octets), against the Java library's own zlib. */
-public final class PngTest {
-    private static final byte[] SIGNATURE = {(byte) 137, 80, 78, 71, 13, 10, 26, 10};
-    private static final byte[] NOTHING = {};
-
+public final class PngTest extends PngFile {
     public static void main(String[] args) throws DataFormatException {
         madeRefusals();
         madeSmallest();
@@ -32,77 +26,6 @@ public final class PngTest {
         whichFaultIsTold();
         full();
         Check.done("PngTest");
-    }
-
-    // ---- Files made here
-
-    private static byte[] join(byte[]... parts) {
-        ByteArrayOutputStream all = new ByteArrayOutputStream();
-        for (byte[] part : parts) {
-            all.writeBytes(part);
-        }
-        return all.toByteArray();
-    }
-
-    private static byte[] bytes(int... values) {
-        byte[] all = new byte[values.length];
-        for (int i = 0; i < all.length; i++) {
-            all[i] = (byte) values[i];
-        }
-        return all;
-    }
-
-    private static byte[] four(long v) {
-        return bytes((int) (v >> 24), (int) (v >> 16), (int) (v >> 8), (int) v);
-    }
-
-    private static byte[] chunk(String name, byte... data) {
-        byte[] named = join(name.getBytes(), data);
-        CRC32 sum = new CRC32();
-        sum.update(named);
-        return join(four(data.length), named, four(sum.getValue()));
-    }
-
-    private static byte[] header(int w, int h, int colour) {
-        return chunk("IHDR", join(four(w), four(h), bytes(8, colour, 0, 0, 0)));
-    }
-
-    private static byte[] png(byte[]... chunks) {
-        return join(SIGNATURE, join(chunks), chunk("IEND"));
-    }
-
-    private static byte[] packed(byte... rows) {
-        Deflater d = new Deflater(9);
-        d.setInput(rows);
-        d.finish();
-        byte[] all = new byte[4000];
-        return Arrays.copyOf(all, d.deflate(all));
-    }
-
-    private static byte[] grey(int w, int h, byte[] zipped) {
-        return png(header(w, h, 0), chunk("IDAT", zipped));
-    }
-
-    /** Two bytes of zlib, a stream of DEFLATE, and ADLER-32 of what it makes. */
-    private static byte[] zlib(byte[] deflated, byte... rows) {
-        Adler32 sum = new Adler32();
-        sum.update(rows);
-        return join(bytes(120, 1), deflated, four(sum.getValue()));
-    }
-
-    /** DEFLATE from numbers: each value is followed by how many bits it has; codes are told by a length below 0. */
-    private static byte[] bits(int... told) {
-        byte[] all = new byte[400];
-        int at = 0;
-        for (int i = 0; i < told.length; i += 2) {
-            int many = Math.abs(told[i + 1]);
-            for (int k = 0; k < many; k++) {
-                int one = told[i] >> (told[i + 1] < 0 ? many - 1 - k : k) & 1;
-                all[at >> 3] |= one << (at & 7);
-                at++;
-            }
-        }
-        return Arrays.copyOf(all, (at + 7) / 8);
     }
 
     private static void dueFault(String what, byte[] file, int sort, int place) {

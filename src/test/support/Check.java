@@ -1,4 +1,8 @@
+import java.io.IOException;
+import java.nio.file.Files;
+import java.nio.file.Path;
 import java.util.NoSuchElementException;
+import java.util.function.Supplier;
 
 /** What the project's tests share: answers that are due, exceptions that are due, and small pictures. */
 final class Check {
@@ -6,17 +10,56 @@ final class Check {
         void run();
     }
 
+    interface Setting {
+        void give(int v);
+    }
+
     private static int asked;
     private static int wrong;
+    private static String document = "";
+    /** The sentence of the document whose test is running. */
+    private static String sentence = "";
 
     private Check() {
+    }
+
+    /**
+     * The test of a sentence: its words stand here as in the document, so that each test can be held against what it is
+     * for; what is wrong in the test is told with them.
+     */
+    static void sentence(String words, Call test) {
+        sentence = words;
+        due("the document has these words", document().contains(words) ? 1 : 0, 1);
+        try {
+            test.run();
+        } catch (RuntimeException e) {
+            asked++;
+            tell("it ended with " + e + " at " + e.getStackTrace()[0]);
+        }
+        sentence = "";
+    }
+
+    private static String document() {
+        if (document.isEmpty()) {
+            try {
+                Path path = Path.of(System.getProperty("root", "."), "../shared/DOC.md");
+                document = Files.readString(path).replaceAll("\\s+", " ");
+            } catch (IOException e) {
+                document = "it can't be read";
+            }
+        }
+        return document;
+    }
+
+    private static void tell(String what) {
+        wrong++;
+        System.out.println(sentence.isEmpty() ? what : "«" + sentence + "»: " + what);
     }
 
     static void due(String what, long got, long want) {
         asked++;
         if (got != want) {
-            wrong++;
-            System.out.println(what + " answered " + got + ", due is " + want);
+            tell(what + " answered " + got + ", due is " + want);
         }
     }
 
@@ -24,8 +67,7 @@ final class Check {
     static void dueColour(String what, int got, int want) {
         asked++;
         if (got != want) {
-            wrong++;
-            System.out.println(String.format("%s answered %08X, due is %08X", what, got, want));
+            tell(String.format("%s answered %08X, due is %08X", what, got, want));
         }
     }
 
@@ -61,9 +103,116 @@ final class Check {
             got = e.getClass();
         }
         if (got != want) {
-            wrong++;
-            System.out.println(what + " threw " + (got == null ? "nothing" : got.getName()) + ", due is " + want.getName());
+            tell(what + " threw " + name(got) + ", due is " + name(want));
         }
+    }
+
+    private static String name(Class<?> thrown) {
+        return thrown == null ? "nothing" : thrown.getName();
+    }
+
+    /** A call that must not throw. */
+    static void taken(String what, Call call) {
+        throwing(what, null, call);
+    }
+
+    /** The ends of a range: they are taken, and what lies just beyond them, or far, is bad. */
+    static void ends(String what, int least, int greatest, Setting call) {
+        for (int v : new int[] {least, greatest}) {
+            taken(what + " " + v, () -> call.give(v));
+        }
+        for (int v : new int[] {least - 1, greatest + 1, Integer.MIN_VALUE, Integer.MAX_VALUE}) {
+            bad(what + " " + v, () -> call.give(v));
+        }
+    }
+
+    /** All that can be asked of a studio without a change, for small DOCUMENTS with few LAYERS. */
+    static String state(PictureStudio s) {
+        StringBuilder all = new StringBuilder();
+        for (int what = 0; what < 10; what++) {
+            all.append(s.count(what)).append(' ');
+        }
+        all.append("fault ").append(s.fault(0)).append(' ').append(s.fault(1)).append(" hash ").append(s.hash());
+        long octets = s.octets(-1);
+        all.append(" octets ").append(octets);
+        for (int i = 0; i < octets; i += 8) {
+            all.append(' ').append(Long.toHexString(s.octets(i)));
+        }
+        all.append(" selected");
+        for (int i = 0; i < s.count(0) * s.count(1); i++) {
+            all.append(' ').append(s.selected(i % s.count(0), i / s.count(0)));
+        }
+        return all.append(layers(s)).toString();
+    }
+
+    /** All LAYERS with all that is theirs. */
+    static String layers(PictureStudio s) {
+        StringBuilder all = new StringBuilder();
+        int w = s.count(0);
+        int h = s.count(1);
+        int many = s.count(2);
+        for (int l = 0; l < 30 && many > 0; l++) {
+            try {
+                int kind = s.about(l, 0);
+                many--;
+                all.append(" LAYER ").append(l).append(':').append(kind);
+                for (int what = 1; what < 16; what++) {
+                    all.append(' ').append(s.about(l, what));
+                }
+                boolean masked = s.masked(l, 0, 0) >= 0;
+                for (int i = 0; i < w * h && (kind == 0 || masked); i++) {
+                    all.append(' ').append(kind == 0 ? s.pixel(l, i % w, i / w) : 0).append('/')
+                        .append(masked ? s.masked(l, i % w, i / w) : -1);
+                }
+            } catch (NoSuchElementException e) {
+                all.append(" no LAYER ").append(l);
+            }
+        }
+        return all.toString();
+    }
+
+    static void dueText(String what, String got, String want) {
+        asked++;
+        if (!got.equals(want)) {
+            tell(what + " answered " + got + ", due is " + want);
+        }
+    }
+
+    /** A call that throws just this class and leaves all that can be asked as it was. */
+    static void unchanged(String what, PictureStudio s, Class<?> thrown, Call call) {
+        String before = state(s);
+        throwing(what, thrown, call);
+        dueText(what + ": the state behind it", state(s), before);
+    }
+
+    /** Colours of a LAYER (-1: of what is seen) of studios made by the same calls: none is asked too often. */
+    static int[] colours(Supplier<PictureStudio> made, int l) {
+        PictureStudio s = made.get();
+        int w = s.count(0);
+        int[] all = new int[w * s.count(1)];
+        for (int i = 0; i < all.length; i++) {
+            if (i % 300 == 299) {
+                s = made.get();
+            }
+            all[i] = l < 0 ? s.see(i % w, i / w) : s.pixel(l, i % w, i / w);
+        }
+        return all;
+    }
+
+    /** hash() of a picture. */
+    static int hash(int... colours) {
+        int h = 0;
+        for (int c : colours) {
+            h = 31 * h + c;
+        }
+        return h;
+    }
+
+    /** A new LAYER of PIXELS with these COLOURS. */
+    static int picture(PictureStudio s, int... colours) {
+        int w = s.count(0);
+        feedBytes(s, PngFile.picture(w, s.count(1), colours));
+        return s.png();
     }
 
     static PictureStudio studio(int w, int h) {
