@@ -147,18 +147,10 @@ public final class EdgesGeneralTest {
         s.fill(l, 2);
         s.made(l);
         // row 0: filter 1, then R G B A of the first pixel
-        byte[] file = out(s);
+        byte[] file = PngFile.out(s);
         Check.due("R G B A of FRONT", Check.hash(rows(file)), Check.hash(1, 2, 3, 4, 1, 0, 0, 0, 0));
         s.filter(l, 8, 0);
         Check.dueColour("R, G, B turned", s.pixel(l, 0, 0), 0x01FDFCFB);
-    }
-
-    private static byte[] out(PictureStudio s) {
-        byte[] all = new byte[(int) s.octets(-1)];
-        for (int i = 0; i < all.length; i++) {
-            all[i] = (byte) (s.octets(i / 8 * 8) >> 56 - i % 8 * 8);
-        }
-        return all;
     }
 
     private static int[] rows(byte[] file) {

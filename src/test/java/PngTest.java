@@ -1,5 +1,6 @@
 import java.util.Arrays;
 import java.util.Random;
+import java.util.function.Supplier;
 import java.util.zip.DataFormatException;
 import java.util.zip.Deflater;
 import java.util.zip.Inflater;
@@ -46,14 +47,6 @@ public final class PngTest extends PngFile {
 
     // ---- Making
 
-    private static byte[] out(PictureStudio s) {
-        byte[] all = new byte[(int) s.octets(-1)];
-        for (int i = 0; i < all.length; i++) {
-            all[i] = (byte) (s.octets(i) >> 56);
-        }
-        return all;
-    }
-
     private static void madeRefusals() {
         PictureStudio s = Check.canvas(1, 1);
         s.layer(2, -1, 1);
@@ -95,140 +88,33 @@ public final class PngTest extends PngFile {
 
     private static void madeAndTakenApart() throws DataFormatException {
         for (int w = 1; w <= 24; w += 5) {
-            PictureStudio s = colourful(w, 24);
-            Check.due("made(-1)", s.made(-1), s.octets(-1));
-            takeApart(s, -1, w);
-            s.made(0);
-            takeApart(s, 0, w);
+            int wide = w;
+            dueMade(() -> colourful(wide, 24), -1);
+            dueMade(() -> colourful(wide, 24), 0);
         }
-        PictureStudio flat = Check.canvas(24, 24);
-        flat.made(0);
-        takeApart(flat, 0, 24);
-        Check.dot(flat, 0, 20, 1, 0x01020304);
-        Check.dot(flat, 0, 5, 4, 0x05060708);
-        Check.dot(flat, 0, 20, 5, 0x7F800102);
-        flat.made(0);
-        takeApart(flat, 0, 24);
+        dueMade(() -> Check.canvas(24, 24), 0);
+        dueMade(() -> {
+            PictureStudio s = Check.canvas(24, 24);
+            Check.dot(s, 0, 20, 1, 0x01020304);
+            Check.dot(s, 0, 5, 4, 0x05060708);
+            Check.dot(s, 0, 20, 5, 0x7F800102);
+            return s;
+        }, 0);
         Check.due("no TILES are asked", colourful(3, 3).count(5), 0);
     }
 
-    private static void takeApart(PictureStudio s, int l, int w) throws DataFormatException {
+    /** The file is the document's, byte by byte, and the library takes it apart. */
+    private static void dueMade(Supplier<PictureStudio> studio, int l) throws DataFormatException {
+        int[] colours = Check.colours(studio, l);
+        PictureStudio s = studio.get();
+        int w = s.count(0);
+        Check.due("how many bytes", s.made(l), s.octets(-1));
         byte[] file = out(s);
-        byte[] zipped = Arrays.copyOfRange(file, 41, file.length - 16);
-        Check.due("just these CHUNKS", Arrays.equals(file, png(header(w, 24, 6), chunk("IDAT", zipped))) ? 1 : 0, 1);
+        Check.due("all bytes of " + w + " by 24", Arrays.equals(file, made(w, 24, colours)) ? 1 : 0, 1);
         Inflater i = new Inflater();
-        i.setInput(zipped);
-        byte[] rows = new byte[4000];
-        int many = i.inflate(rows);
-        Check.due("all bytes of the rows", many, 24 * (1 + 4 * w));
+        i.setInput(Arrays.copyOfRange(file, 41, file.length - 16));
+        Check.due("all bytes of the rows", i.inflate(new byte[4000]), 24 * (1 + 4 * w));
         Check.due("the end of the stream", i.finished() ? i.getRemaining() : -1, 0);
-        dueRows(s, l, w, rows);
-        dueMatches(zipped, rows, many);
-    }
-
-    private static int predicted(int filter, int a, int b, int c) {
-        int p = a + b - c;
-        int near = Math.min(Math.abs(p - a), Math.min(Math.abs(p - b), Math.abs(p - c)));
-        int paeth = Math.abs(p - a) == near ? a : Math.abs(p - b) == near ? b : c;
-        return new int[] {0, a, b, (a + b) / 2, paeth}[filter];
-    }
-
-    private static int sample(PictureStudio s, int l, int k, int y) {
-        if (k < 0 || y < 0) {
-            return 0;
-        }
-        int c = l < 0 ? s.see(k / 4, y) : s.pixel(l, k / 4, y);
-        return c >>> new int[] {16, 8, 0, 24}[k % 4] & 255;
-    }
-
-    /** Each row has the best filter, and its bytes are what that leaves. */
-    private static void dueRows(PictureStudio s, int l, int w, byte[] rows) {
-        for (int y = 0; y < 24; y++) {
-            byte[][] tried = new byte[5][4 * w];
-            int best = 0;
-            int[] sums = new int[5];
-            for (int f = 0; f < 5; f++) {
-                for (int k = 0; k < 4 * w; k++) {
-                    tried[f][k] = (byte) (sample(s, l, k, y) - predicted(f, sample(s, l, k - 4, y), sample(s, l, k, y - 1),
-                        k < 4 ? 0 : sample(s, l, k - 4, y - 1)));
-                    sums[f] += Math.abs(tried[f][k]);
-                }
-                best = sums[f] < sums[best] ? f : best;
-            }
-            int at = y * (1 + 4 * w);
-            Check.due("the filter of row " + y, rows[at], best);
-            Check.due("its bytes", Arrays.equals(Arrays.copyOfRange(rows, at + 1, at + 1 + 4 * w), tried[best]) ? 1 : 0, 1);
-        }
-    }
-
-    private static int bit;
-
-    private static int number(byte[] from, int many) {
-        int all = 0;
-        for (int k = 0; k < many; k++) {
-            all |= (from[bit >> 3] >> (bit & 7) & 1) << k;
-            bit++;
-        }
-        return all;
-    }
-
-    private static int code(byte[] from, int many) {
-        int all = 0;
-        for (int k = 0; k < many; k++) {
-            all = all << 1 | number(from, 1);
-        }
-        return all;
-    }
-
-    private static int symbol(byte[] from) {
-        int v = code(from, 7);
-        if (v < 24) {
-            return 256 + v;
-        }
-        v = v << 1 | code(from, 1);
-        if (v < 0xC0) {
-            return v - 0x30;
-        }
-        return v < 0xC8 ? 280 + v - 0xC0 : 144 + (v << 1 | code(from, 1)) - 0x190;
-    }
-
-    /** One block of fixed codes, from left to right the longest match, the nearest of these, else the byte. */
-    private static void dueMatches(byte[] zipped, byte[] rows, int many) {
-        bit = 16;
-        Check.due("one last block of fixed codes", number(zipped, 3), 3);
-        int at = 0;
-        int s = symbol(zipped);
-        while (s != 256 && at < many) {
-            int longest = 0;
-            int nearest = 0;
-            for (int d = 1; d <= at; d++) {
-                int n = 0;
-                while (n < 258 && at + n < many && rows[at + n] == rows[at + n - d]) {
-                    n++;
-                }
-                if (n > longest) {
-                    longest = n;
-                    nearest = d;
-                }
-            }
-            if (s < 256) {
-                Check.due("a byte only without a match", longest < 3 ? s : -1, rows[at] & 255);
-                at++;
-            } else {
-                int k = s - 257;
-                int extra = k < 8 || k == 28 ? 0 : k / 4 - 1;
-                int n = (k == 28 ? 258 : k < 8 ? 3 + k : 3 + (4 + k % 4 << extra)) + number(zipped, extra);
-                int dc = code(zipped, 5);
-                int more = dc < 4 ? 0 : dc / 2 - 1;
-                int d = (dc < 4 ? 1 + dc : 1 + (2 + dc % 2 << more)) + number(zipped, more);
-                Check.due("the longest match at " + at, n, longest);
-                Check.due("the nearest of these at " + at, d, nearest);
-                at += n;
-            }
-            s = symbol(zipped);
-        }
-        Check.due("all bytes, then the end", at, many);
-        Check.due("then ADLER-32", zipped.length, (bit + 7) / 8 + 4);
     }
 
     private static void octets() {
@@ -309,9 +195,11 @@ public final class PngTest extends PngFile {
                 skewed[i] = (byte) (i % 25 == 0 ? 0 : r.nextInt(1 + r.nextInt(kinds)) * 5);
             }
             PictureStudio t = read(24, 24, grey(24, 24, packed(skewed)));
+            int[] due = new int[576];
             for (int i = 0; i < 576; i++) {
-                Check.dueColour("told codes", t.pixel(0, i % 24, i / 24), Check.grey(skewed[i / 24 * 25 + 1 + i % 24] & 255));
+                due[i] = Check.grey(skewed[i / 24 * 25 + 1 + i % 24] & 255);
             }
+            Check.due("told codes", t.hash(), Check.hash(due));
         }
         byte[] flat = new byte[24 * 25];
         PictureStudio s = read(24, 24, grey(24, 24, packed(flat)));
@@ -370,13 +258,11 @@ public final class PngTest extends PngFile {
 
     private static void thereAndBack() {
         for (int w = 1; w <= 24; w += 23) {
+            int wide = w;
             PictureStudio s = colourful(w, 24);
             s.made(0);
-            Check.feedBytes(s, out(s));
-            int l = s.png();
-            for (int i = 0; i < 24 * w; i++) {
-                Check.dueColour("there and back", s.pixel(l, i % w, i / w), s.pixel(0, i % w, i / w));
-            }
+            PictureStudio t = read(w, 24, out(s));
+            Check.due("there and back", t.hash(), Check.hash(Check.colours(() -> colourful(wide, 24), 0)));
         }
     }
 

@@ -6,8 +6,8 @@ import java.util.List;
 import java.util.Random;
 
 /**
- * Calls with arguments of all sorts, in runs of 512: a call throws only what its face names, never what the machine
- * throws, and a call that throws changes nothing (but for INPUT, which an [INPUT] call empties).
+ * Calls with arguments of all sorts: a call throws only what its face names, never what the machine throws, and a call
+ * that throws changes nothing (but for INPUT, which an [INPUT] call empties). No object is asked more often than 512 times.
  */
 public final class RoughTest {
     private static final int[] ENDS = {Integer.MIN_VALUE, -4097, -2001, -201, -101, -65, -2, -1, 0, 1, 2, 3, 7, 8, 15, 16, 23,
@@ -21,8 +21,11 @@ public final class RoughTest {
             }
         }
         calls.sort(Comparator.comparing(Method::getName));
-        for (int seed = 0; seed < 60; seed++) {
+        for (int seed = 0; seed < 900; seed++) {
             run(seed, calls);
+        }
+        for (int seed = 0; seed < 60; seed++) {
+            Check.due("a run of 512 calls", answers(new Random(seed), calls).size(), 512);
         }
         sameCallsSameAnswers(calls);
         Check.done("RoughTest");
@@ -41,16 +44,18 @@ public final class RoughTest {
         return all;
     }
 
-    /** All that can be asked without a change, but for INPUT and faults. */
+    private static final int STATE = 18;
+
+    /** Much of what can be asked without a change, by so many calls; INPUT and faults are left out. */
     private static long state(PictureStudio s) {
         long all = s.hash();
         for (int what = 0; what < 10; what++) {
             all = 31 * all + (what == 8 ? 0 : s.count(what));
         }
-        for (int y = 0; y < s.count(1); y++) {
-            for (int x = 0; x < s.count(0); x++) {
-                all = 31 * all + s.selected(x, y);
-            }
+        int w = s.count(0);
+        int h = s.count(1);
+        for (int k = 0; k < 4; k++) {
+            all = 31 * all + s.selected(k * (w - 1) / 3, k * k * (h - 1) / 9);
         }
         return 31 * all + s.octets(-1);
     }
@@ -62,13 +67,13 @@ public final class RoughTest {
     private static void run(int seed, List<Method> calls) throws IllegalAccessException {
         Random r = new Random(seed);
         PictureStudio s = new PictureStudio();
+        for (int i = 0; i < 6; i++) {
+            s.layer(r.nextInt(6), -1, 0);
+        }
         long before = state(s);
-        for (int i = 0; i < 512; i++) {
-            Method call = i < 12 || r.nextInt(8) == 0 ? named(calls, "layer") : calls.get(r.nextInt(calls.size()));
+        for (int asked = 6 + STATE; asked + STATE + 3 <= 512; asked += STATE + 3) {
+            Method call = calls.get(r.nextInt(calls.size()));
             Object[] with = arguments(r, call);
-            if (call.getName().equals("open") && r.nextInt(4) > 0) {
-                continue;
-            }
             int input = s.count(8);
             Throwable thrown = null;
             try {
@@ -76,16 +81,17 @@ public final class RoughTest {
             } catch (InvocationTargetException e) {
                 thrown = e.getCause();
             }
+            int left = s.count(8);
             long behind = state(s);
-            String what = "seed " + seed + ", call " + i + ", " + call.getName() + java.util.Arrays.toString(with);
+            String what = "seed " + seed + ", call " + asked + ", " + call.getName() + java.util.Arrays.toString(with);
             if (thrown != null) {
                 Check.due(what + " threw " + thrown, List.of(call.getExceptionTypes()).contains(thrown.getClass()) ? 1 : 0, 1);
                 Check.due(what + " threw and changed something", behind, before);
             }
             if (takesInput(call)) {
-                Check.due(what + " empties INPUT", s.count(8), 0);
+                Check.due(what + " empties INPUT", left, 0);
             } else if (thrown != null) {
-                Check.due(what + " threw and changed INPUT", s.count(8), input);
+                Check.due(what + " threw and changed INPUT", left, input);
             }
             before = behind;
         }
@@ -107,9 +113,11 @@ public final class RoughTest {
             Method call = i < 12 ? named(calls, "layer") : calls.get(r.nextInt(calls.size()));
             Object[] with = arguments(r, call);
             try {
-                all.add(call.invoke(s, with));
+                all.add(String.valueOf(call.invoke(s, with)));
             } catch (InvocationTargetException e) {
                 all.add(e.getCause().getClass());
+                Check.due(call.getName() + java.util.Arrays.toString(with) + " threw " + e.getCause(),
+                    List.of(call.getExceptionTypes()).contains(e.getCause().getClass()) ? 1 : 0, 1);
             }
         }
         return all;
