@@ -131,6 +131,11 @@ public final class EdgesColoursTest {
         give(t, 0, far);
         give(t, 1, far);
         dueConverted("there and back", t, 0, far, 1, far, allValues());
+        int[] minus = {-1, 0, 0, 0, 1, 0, 0, 0, 1, 0};
+        PictureStudio m = Check.studio(16, 16);
+        give(m, 1, minus);
+        give(m, 0, minus);
+        dueConverted("determinant -1", m, 0, minus, 1, minus, allValues());
         int[] below = {-1024, 0, 0, 0, 1024, 0, 0, 0, 1024, 0};
         PictureStudio b = Check.studio(1, 1);
         give(b, 1, below);
@@ -442,6 +447,7 @@ public final class EdgesColoursTest {
         dueRaw("black far above raw: 0", 2, new int[] {4095, 1024, 1024, 1024}, 0, 1, 2, 3);
         dueRaw("255 64 / 64 is 255: 15", 1, new int[] {0, 64, 64, 64}, 255);
         dueRaw("256: 16", 1, new int[] {0, 64, 64, 64}, 256);
+        dueRaw("(0 + 30 + 1) / 2 is 15, 0 not 1", 2, new int[] {5, 64, 64, 64}, 0, 3, 35, 0);
         dueRaw("brought to 4095", 1, new int[] {0, 65, 64, 64}, 4095);
     }
 

@@ -81,10 +81,7 @@ public final class EdgesGeneralTest {
     /** A SELECTION of 128 on one pixel, or of 127. */
     private static void selectHalf(PictureStudio s, boolean turned) {
         s.step(7, 3, 0, 0);
-        s.step(7, 0, 0, 0);
-        s.step(7, 1, 8, 0);
-        s.step(7, 1, 8, 16);
-        s.step(7, 1, 0, 16);
+        Check.box(s, 7, 0, 0, 8, 16);
         s.select(6, 0, 7, 0, 0, 0);
         if (turned) {
             s.reselect(0, 0);
@@ -539,10 +536,7 @@ public final class EdgesGeneralTest {
         Check.dot(s, 0, 0, 0, 0xFF804020);
         s.convert(0, 0, 1);
         Check.dueColour("the PROFILE is as it was", s.pixel(0, 0, 0), 0xFF802020);
-        s.step(3, 0, 0, 0);
-        s.step(3, 1, 16, 0);
-        s.step(3, 1, 16, 16);
-        s.step(3, 1, 0, 16);
+        Check.box(s, 3, 0, 0, 16, 16);
         Check.bad("step", () -> s.step(3, 1, 900, 2001));
         Check.bad("step", () -> s.step(8, 3, 0, 0));
         s.glyph(65, 3, 32);

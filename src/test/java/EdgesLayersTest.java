@@ -180,10 +180,7 @@ public final class EdgesLayersTest {
         s.end(0);
         s.feed(0x41424344, 0, 0, 0, 0);
         s.end(1);
-        s.step(0, 0, 0, 0);
-        s.step(0, 1, 16, 0);
-        s.step(0, 1, 16, 16);
-        s.step(0, 1, 0, 16);
+        Check.box(s, 0, 0, 0, 16, 16);
         s.glyph(0x41, 0, 16);
         s.glyph(0x42, 0, 16);
         Check.due("the byte behind doesn't count", s.text(0, 0, 0), 1);
@@ -788,10 +785,7 @@ public final class EdgesLayersTest {
         s.kernel(10, 5);
         s.profile(0, 0, 0);
         s.develop(1, 0);
-        s.step(0, 0, 0, 0);
-        s.step(0, 1, 16, 0);
-        s.step(0, 1, 16, 16);
-        s.step(0, 1, 0, 16);
+        Check.box(s, 0, 0, 0, 16, 16);
         s.glyph(7, 0, 0);
         s.feed(7, 7, 7, 7, 7);
         s.undo();

@@ -175,10 +175,7 @@ public final class EdgesPaintTest {
         if (call == 2) {
             return s.filter(0, 8, 0);
         }
-        s.step(0, 0, -160, -160);
-        s.step(0, 1, 160, -160);
-        s.step(0, 1, 160, 160);
-        s.step(0, 1, -160, 160);
+        Check.box(s, 0, -160, -160, 160, 160);
         s.glyph(1, 0, 0);
         Check.feedBytes(s, (byte) 1);
         return call == 3 ? s.path(0, 0, 0) : s.text(0, 0, 0);
@@ -364,6 +361,8 @@ public final class EdgesPaintTest {
         for (int[] b : brushes) {
             dueStroke("a BRUSH of " + Arrays.toString(b), 24, 24, b, 46, 46, 255, 10, 90, 0, 94, 2, 128);
             dueStroke("a BRUSH of " + Arrays.toString(b) + " on one pixel", 1, 1, b, 2, 2, 255);
+            dueStroke("a BRUSH of " + Arrays.toString(b) + " on one column", 1, 9, b, 2, 10, 255, 2, 20, 90);
+            dueStroke("a BRUSH of " + Arrays.toString(b) + " on one row", 9, 1, b, 10, 2, 255, 20, 2, 90);
         }
     }
 
@@ -675,6 +674,19 @@ public final class EdgesPaintTest {
         s.step(0, 1, 32, 32);
         Check.due("x, y aren't looked at", s.step(0, 3, Integer.MIN_VALUE, Integer.MAX_VALUE), 0);
         Check.due("an empty PATH", s.path(0, 0, 0), 0);
+        PictureStudio t = Check.canvas(4, 4);
+        for (int p = 0; p < 2; p++) {
+            for (int i = 0; i < 8; i++) {
+                t.step(p, i == 0 ? 0 : 1, i * 29 % 64, i * 45 % 64);
+            }
+        }
+        t.step(0, 3, 0, 0);
+        int[] corners = {3, 5, 60, 9, 20, 61};
+        for (int i = 0; i < 6; i += 2) {
+            t.step(0, 1, corners[i], corners[i + 1]);
+        }
+        t.path(0, 0, 0);
+        duePath("nothing of those that went", t, 0, corners);
         Check.bad("PATH 8", () -> s.step(8, 3, 0, 0));
         Check.bad("PATH -1", () -> s.step(-1, 3, 0, 0));
         Check.bad("kind 4", () -> s.step(0, 4, 0, 0));
@@ -820,19 +832,13 @@ public final class EdgesPaintTest {
             Check.dueColour(n + " points, in two PATHS", s.pixel(0, 0, 0), Told.over(first, 0xFF000000, second, 0));
         }
         PictureStudio p = Check.canvas(1, 1);
-        p.step(0, 0, 0, 0);
-        p.step(0, 1, 16, 0);
-        p.step(0, 1, 16, 16);
-        p.step(0, 1, 0, 16);
+        Check.box(p, 0, 0, 0, 16, 16);
         p.path(0, 0, 0);
         Check.dueColour("sixteen points: 255", p.pixel(0, 0, 0), 0xFF000000);
     }
 
     private static void square(PictureStudio s, int p, int x, int y) {
-        s.step(p, 0, x, y);
-        s.step(p, 1, x + 4, y);
-        s.step(p, 1, x + 4, y + 4);
-        s.step(p, 1, x, y + 4);
+        Check.box(s, p, x, y, x + 4, y + 4);
     }
 
     private static void path() {
@@ -841,16 +847,10 @@ public final class EdgesPaintTest {
         Check.ends("p", 0, 7, v -> s.path(0, v, 0));
         Check.ends("rule", 0, 1, v -> s.path(0, 0, v));
         PictureStudio g = Check.canvas(24, 24);
-        g.step(7, 0, 0, 0);
-        g.step(7, 1, 384, 0);
-        g.step(7, 1, 384, 384);
-        g.step(7, 1, 0, 384);
+        Check.box(g, 7, 0, 0, 384, 384);
         Check.due("all of 24 by 24", g.path(0, 7, 1), 576);
         g.undo();
-        g.step(6, 0, 368, 368);
-        g.step(6, 1, 384, 368);
-        g.step(6, 1, 384, 384);
-        g.step(6, 1, 368, 384);
+        Check.box(g, 6, 368, 368, 384, 384);
         Check.due("the last pixel alone, nothing of the PATH before", g.path(0, 6, 1), 1);
         Check.dueColour("the last pixel", g.pixel(0, 23, 23), 0xFF000000);
     }
@@ -859,10 +859,7 @@ public final class EdgesPaintTest {
 
     private static void pixelGlyph(PictureStudio s, int b, int p, int advance) {
         s.step(p, 3, 0, 0);
-        s.step(p, 0, 0, 0);
-        s.step(p, 1, 16, 0);
-        s.step(p, 1, 16, 16);
-        s.step(p, 1, 0, 16);
+        Check.box(s, p, 0, 0, 16, 16);
         s.glyph(b, p, advance);
     }
 
@@ -939,14 +936,8 @@ public final class EdgesPaintTest {
         Check.dueColour("each is filled for itself", s.pixel(0, 1, 1), due);
         s.undo();
         s.front(0xFF000000);
-        s.step(3, 0, 0, 0);
-        s.step(3, 1, 16, 0);
-        s.step(3, 1, 16, 16);
-        s.step(3, 1, 0, 16);
-        s.step(3, 0, 0, 0);
-        s.step(3, 1, 16, 0);
-        s.step(3, 1, 16, 16);
-        s.step(3, 1, 0, 16);
+        Check.box(s, 3, 0, 0, 16, 16);
+        Check.box(s, 3, 0, 0, 16, 16);
         s.glyph(3, 3, 0);
         Check.feedBytes(s, new byte[] {3});
         Check.due("rule 0", s.text(0, 0, 0), 1);
@@ -966,10 +957,7 @@ public final class EdgesPaintTest {
         Check.ends("x", -2000, 2000, v -> s.text(0, v, 0));
         Check.ends("y", -2000, 2000, v -> s.text(0, 0, v));
         PictureStudio t = Check.canvas(2, 1);
-        t.step(0, 0, 1984, 1984);
-        t.step(0, 1, 2000, 1984);
-        t.step(0, 1, 2000, 2000);
-        t.step(0, 1, 1984, 2000);
+        Check.box(t, 0, 1984, 1984, 2000, 2000);
         t.glyph(1, 0, 0);
         Check.feedBytes(t, (byte) 1);
         t.text(0, -1984, -1984);

@@ -518,8 +518,15 @@ public final class EdgesPngTest extends PngFile {
         dueRows("none to their end, by 18", 1, eight(11, 3, 0, 16, 3, 18, 127, 18, 100, 3, 0, 18, 0).tokens(eight, NONE, 0, 5, 256), ZERO_FIVE);
         dueWrong("none beyond their end by one, by 18", 1,
             eight(10, 3, 0, 16, 3, 18, 127, 18, 100, 3, 0, 18, 0).tokens(eight, NONE, 0, 5, 256), ZERO_FIVE);
-        dueWrong("said again with none before", 1, eight(1, 16, 0, 3, 0, 16, 3, 18, 127, 18, 97, 3, 0, 0, 0)
-            .tokens(eight, NONE, 0, 5, 256), ZERO_FIVE);
+        int[] late = literals(257, 3, 3, 4, 3, 5, 3, 6, 3, 7, 3, 8, 3, 9, 3, 256, 3);
+        dueRows("17 first", 1, late(17).tokens(late, NONE, 5, 256), ZERO_FIVE);
+        dueWrong("said again with none before, which would be 0", 1, late(16).tokens(late, NONE, 5, 256), ZERO_FIVE);
+    }
+
+    /** A byte 0, then a block whose codes are 3 to 9 and 256: the first three lengths are told by this symbol. */
+    private static Bits late(int symbol) {
+        return block(false, 1).tokens(fixedLiterals(), fixedDistances(), 0, 256).number(1, 1).number(2, 2).number(0, 5).number(0, 5)
+            .orders(NINETEEN, 19).lengths(NINETEEN, symbol, 0, 3, 0, 16, 3, 18, 127, 18, 97, 3, 0, 0, 0);
     }
 
     private static void codesLengths() {

@@ -593,10 +593,7 @@ public final class EdgesSeenTest {
         Check.due("576", t.fill(0, 0), 576);
         Check.due("turned", t.filter(0, 8, 0), 576);
         s.front(0xFF0000FF);
-        s.step(0, 0, 0, 0);
-        s.step(0, 1, 16, 0);
-        s.step(0, 1, 16, 16);
-        s.step(0, 1, 0, 16);
+        Check.box(s, 0, 0, 0, 16, 16);
         s.glyph(1, 0, 0);
         s.glyph(2, 0, 16);
         Check.feedBytes(s, new byte[] {1, 2, 2});

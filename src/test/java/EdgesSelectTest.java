@@ -260,31 +260,24 @@ public final class EdgesSelectTest {
         Check.due("all 576", g.select(5, 0, 0, 0, 0, 0), 576);
     }
 
-    private static void box(PictureStudio s, int p, int x0, int y0, int x1, int y1) {
-        s.step(p, 0, x0, y0);
-        s.step(p, 1, x1, y0);
-        s.step(p, 1, x1, y1);
-        s.step(p, 1, x0, y1);
-    }
-
     private static void paths() {
         PictureStudio s = paper(24, 24);
-        box(s, 0, 0, 0, 384, 384);
+        Check.box(s, 0, 0, 0, 384, 384);
         Check.due("all 576", s.select(6, 0, 0, 0, 0, 0), 576);
-        box(s, 0, 16, 16, 368, 368);
+        Check.box(s, 0, 16, 16, 368, 368);
         Check.due("rule 1", s.select(6, 0, 0, 1, 0, 0), 92);
         Check.due("rule 0", s.select(6, 0, 0, 0, 0, 0), 576);
         Check.due("an empty PATH", s.select(6, 0, 7, 0, 0, 0), 0);
         PictureStudio t = Check.studio(2, 1);
-        box(t, 7, 2, 2, 6, 3);
+        Check.box(t, 7, 2, 2, 6, 3);
         t.select(6, 0, 7, 0, 0, 0);
         Check.dueSelected("where it lies: a point at its beginning", t, 16, 0);
         t.step(7, 3, 0, 0);
-        box(t, 7, 3, 2, 7, 3);
+        Check.box(t, 7, 3, 2, 7, 3);
         t.select(6, 0, 7, 1, 0, 0);
         Check.dueSelected("one further right", t, 16, 0);
         t.step(7, 3, 0, 0);
-        box(t, 7, 3, 3, 6, 9);
+        Check.box(t, 7, 3, 3, 6, 9);
         t.select(6, 0, 7, 1, 0, 0);
         Check.dueSelected("a point at its end isn't in", t, 0, 0);
     }

@@ -139,18 +139,12 @@ public final class SelectTest {
     private static void paths() {
         PictureStudio s = Check.studio(2, 1);
         for (int i = 0; i < 2; i++) {
-            s.step(7, 0, 0, 0);
-            s.step(7, 1, 24, 0);
-            s.step(7, 1, 24, 16);
-            s.step(7, 1, 0, 16);
+            Check.box(s, 7, 0, 0, 24, 16);
         }
         Check.due("rule 0", s.select(6, 0, 7, 0, 0, 0), 2);
         Check.dueSelected("rule 0", s, 255, 128);
         Check.due("rule 1", s.select(6, 0, 7, 1, 0, 0), 0);
-        s.step(6, 0, 0, 2);
-        s.step(6, 1, 16, 2);
-        s.step(6, 1, 16, 14);
-        s.step(6, 1, 0, 14);
+        Check.box(s, 6, 0, 2, 16, 14);
         s.select(6, 0, 6, 0, 0, 0);
         Check.dueSelected("where it lies", s, 191, 0);
         Check.due("an empty PATH", s.select(6, 0, 0, 0, 0, 0), 0);

@@ -276,9 +276,6 @@ public final class SettingsTest {
     }
 
     private static void square(PictureStudio s, int p) {
-        s.step(p, 0, 0, 0);
-        s.step(p, 1, 16, 0);
-        s.step(p, 1, 16, 16);
-        s.step(p, 1, 0, 16);
+        Check.box(s, p, 0, 0, 16, 16);
     }
 }

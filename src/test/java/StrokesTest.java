@@ -224,18 +224,11 @@ public final class StrokesTest {
         Check.due("is an EDIT", s.count(3), 3);
     }
 
-    private static void box(PictureStudio s, int p, int x0, int y0, int x1, int y1) {
-        s.step(p, 0, x0, y0);
-        s.step(p, 1, x1, y0);
-        s.step(p, 1, x1, y1);
-        s.step(p, 1, x0, y1);
-    }
-
     /** A of all pixels behind a path filled on a new canvas of 3 by 2. */
     private static int[] filled(int rule, int... boxes) {
         PictureStudio s = Check.canvas(3, 2);
         for (int i = 0; i < boxes.length; i += 4) {
-            box(s, 0, boxes[i], boxes[i + 1], boxes[i + 2], boxes[i + 3]);
+            Check.box(s, 0, boxes[i], boxes[i + 1], boxes[i + 2], boxes[i + 3]);
         }
         s.path(0, 0, rule);
         return alphas(s);
@@ -265,7 +258,7 @@ public final class StrokesTest {
         PictureStudio s = Check.canvas(2, 2);
         s.front(0x80FF0000);
         s.select(2, 0, 0, 0, 2, 1);
-        box(s, 3, 0, 0, 16, 32);
+        Check.box(s, 3, 0, 0, 16, 32);
         Check.due("by the SELECTION", s.path(0, 3, 0), 1);
         Check.duePixels("FRONT over", s, 0, 0x70FF0000, 0, 0, 0);
         s.set(0, 4, 1);
@@ -294,10 +287,7 @@ public final class StrokesTest {
         s.step(0, 1, 48, 0);
         s.step(0, 1, 48, 16);
         s.step(0, 1, 0, 16);
-        s.step(0, 0, 16, 16);
-        s.step(0, 1, 32, 16);
-        s.step(0, 1, 32, 32);
-        s.step(0, 1, 16, 32);
+        Check.box(s, 0, 16, 16, 32, 32);
         s.step(0, 2, 0, 0);
         s.path(0, 0, 0);
         dueAll("the first STEP begins a figure, the last control counts for nothing", alphas(s), 255, 255, 255, 0, 255, 0);
@@ -347,7 +337,7 @@ public final class StrokesTest {
 
     private static void text() {
         PictureStudio s = Check.canvas(4, 1);
-        box(s, 0, 0, 0, 16, 16);
+        Check.box(s, 0, 0, 0, 16, 16);
         s.glyph('A', 0, 16);
         s.glyph('B', 0, 0);
         s.glyph('C', 1, 32);
@@ -378,7 +368,7 @@ public final class StrokesTest {
         s.step(2, 2, 16, 0);
         s.step(2, 1, 16, 16);
         s.step(2, 1, 0, 16);
-        box(s, 2, 0, 0, 16, 16);
+        Check.box(s, 2, 0, 0, 16, 16);
         s.glyph('D', 2, 800);
         Check.feedBytes(s, (byte) 'D');
         s.text(0, 16, 0);

@@ -258,6 +258,14 @@ final class Check {
         }
     }
 
+    /** Four STEPS more of a PATH: a box, from one corner over the right to the other. */
+    static void box(PictureStudio s, int p, int x0, int y0, int x1, int y1) {
+        s.step(p, 0, x0, y0);
+        s.step(p, 1, x1, y0);
+        s.step(p, 1, x1, y1);
+        s.step(p, 1, x0, y1);
+    }
+
     static int grey(int v) {
         return 0xFF000000 | v << 16 | v << 8 | v;
     }
