@@ -325,6 +325,11 @@ public final class EdgesPaintTest {
         Check.picture(s, 0x00FFFFFF, 0x00FFFFFF, 0x00FFFFFF, 0x00FFFFFF);
         s.scale(0, 3, 2, true);
         Check.duePixels("a 0: all 0", s, 0, 0, 0, 0, 0);
+        PictureStudio f = Check.studio(2, 2);
+        Check.picture(f, 0, 0, 0, 0x01D96E37);
+        f.scale(0, 5, 6, true);
+        // X, Y are 6 8 / 5 - 8 = 1: a weight of 1 for the last one
+        Check.dueColour("a 1: A (1 + 128) >> 8 is 0, R as it is", f.pixel(0, 0, 0), 0x00D96E37);
         PictureStudio g = Check.canvas(24, 24);
         g.fill(0, 0);
         g.scale(0, 1, 1, true);
