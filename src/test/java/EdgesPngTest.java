@@ -244,6 +244,18 @@ public final class EdgesPngTest extends PngFile {
         dueFault("a great length", great, 1, 33);
         Arrays.fill(great, 33, 37, (byte) -1);
         dueFault("a length of -1", great, 1, 33);
+        cutByEnd(file);
+    }
+
+    /** Bytes that end cut off again are no bytes of INPUT, though they would be the right ones. */
+    private static void cutByEnd(byte[] file) {
+        for (int n = 0; n < file.length; n++) {
+            PictureStudio s = Check.studio(1, 1);
+            Check.feedBytes(s, file);
+            s.end(n);
+            int place = n < 8 ? 0 : n < 33 ? 8 : n < file.length - 12 ? 33 : file.length - 12;
+            Check.faulty("cut off at " + n + " by end", s, s::png, 1, place);
+        }
     }
 
     private static byte[] headed(int... thirteen) {
@@ -736,6 +748,11 @@ public final class EdgesPngTest extends PngFile {
             33 + two.length + text.length);
         dueFault("made by a filter", png(header(3, 1, 3), two, chunk("IDAT", packed(bytes(1, 1, 0, 1)))), 6, 33 + two.length);
         read("no longer by a filter", 3, 1, png(header(3, 1, 3), two, chunk("IDAT", packed(bytes(1, 1, 255, 1)))));
+        byte[] one = chunk("PLTE", bytes(1, 2, 3));
+        for (int filter = 0; filter < 5; filter++) {
+            byte[] rows = bytes(filter, 0, 0, filter, 0, 0, filter, 0, 0);
+            read("the rows' filters are no indices", 2, 3, png(header(2, 3, 3), one, chunk("IDAT", packed(rows))));
+        }
     }
 
     private static void bytesBehind() {

@@ -228,6 +228,18 @@ public final class EdgesSelectTest {
         Check.dueSelected("without steps", w, 0, 255, 0, 255, 255, 0, 255, 0);
         PictureStudio g = Check.studio(24, 24);
         Check.due("all 576 without steps", g.select(4, 0, 23, 23, 0, 0), 576);
+        lastPlace();
+    }
+
+    private static void lastPlace() {
+        PictureStudio s = Check.canvas(24, 24);
+        Check.dot(s, 0, 23, 23, -1);
+        for (int shape = 3; shape < 5; shape++) {
+            Check.due("the last place alone", s.select(shape, 0, 23, 23, 0, 0), 1);
+            Check.due("the last place", s.selected(23, 23), 255);
+            Check.due("all but the last place", s.select(shape, 0, 22, 23, 0, 0), 575);
+            Check.due("not the last place", s.selected(23, 23), 0);
+        }
     }
 
     private static void alphas() {

@@ -361,8 +361,13 @@ public final class ModelTest {
         for (int i = 0; i < rows.length; i++) {
             rows[i] = (byte) (colour == 3 || r.nextBoolean() ? r.nextInt(shades) : r.nextInt(256));
         }
+        boolean same = colour == 3 && r.nextBoolean();
+        if (same) {
+            // whatever the filters are, all indices are 0
+            Arrays.fill(rows, (byte) 0);
+        }
         for (int y = 0; y < h; y++) {
-            rows[y * (rows.length / h)] = (byte) (rarely() ? 5 : colour == 3 ? 0 : r.nextInt(5));
+            rows[y * (rows.length / h)] = (byte) (rarely() ? 5 : colour == 3 && !same ? 0 : r.nextInt(5));
         }
         byte[] zipped = zipped(rows);
         int cut = r.nextInt(zipped.length + 1);
